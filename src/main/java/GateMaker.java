@@ -399,7 +399,8 @@ public final class GateMaker {
         if (shelves[d] == null || shelves[e] == null) {
             return NOTHING_HELD;
         }
-        if (shelves[d] instanceof Row from && shelves[e] instanceof Row to && from.what == to.what) {
+        if (shelves[d] instanceof Row from && shelves[e] instanceof Row to
+                && from.what == to.what) {
             return copyCells(from, i, to, j, n);
         }
         return OTHER_KIND;

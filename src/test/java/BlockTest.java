@@ -14,6 +14,8 @@ public final class BlockTest {
         acts();
         spans();
         narrowSpans();
+        spansOfSigns();
+        spansWithAnEndAtZero();
         bits();
         needsOfOperands();
         needsOfRowAndPorts();
@@ -254,6 +256,34 @@ public final class BlockTest {
         x.drop();
         int low = x.constant(1L << 31, 32);
         span(x, x.reckon(4, low, low, 32), -(1L << 31), (1L << 31) - 1);
+    }
+
+    private static void spansOfSigns() {
+        GateMaker x = new GateMaker();
+        int in = x.port(0, -1, 2);
+        int above = x.reckon(2, in, x.constant(10, 8), 8);
+        int under = x.reckon(2, in, x.constant(-10, 8), 8);
+        span(x, above, 8, 11);
+        span(x, under, -12, -9);
+        span(x, x.reckon(4, above, above, 16), 64, 121);
+        span(x, x.reckon(4, above, under, 16), -132, -72);
+        span(x, x.reckon(4, under, above, 16), -132, -72);
+        span(x, x.reckon(4, under, under, 16), 81, 144);
+        span(x, x.reckon(5, above, under, 16), -11, 11);
+        span(x, x.reckon(5, under, above, 16), -12, 12);
+        span(x, x.reckon(4, under, under, 8), -128, 127);
+    }
+
+    private static void spansWithAnEndAtZero() {
+        GateMaker x = new GateMaker();
+        int in = x.port(0, -1, 1);
+        int either = x.reckon(3, in, x.constant(-1, 8), 8);
+        int three = x.constant(3, 8);
+        int five = x.constant(5, 8);
+        span(x, in, -1, 0);
+        span(x, either, 0, 1);
+        span(x, x.pick(in, three, five, 8), 3, 5);
+        span(x, x.pick(either, five, three, 8), 3, 5);
     }
 
     private static void bits() {

@@ -9,6 +9,8 @@ public final class PlanTest {
         pipes();
         ticks();
         lives();
+        livesAtOnce();
+        forgetsDropped();
         bounds();
         registers();
         choosers();
@@ -203,6 +205,42 @@ public final class PlanTest {
         due("16: lives to", x, 6, -2, 7, 4, 6, 6, 7, -2);
         due("16: REGISTER, one TICK in common is too much", x, 4, -2, 0, 1, 2, 1, 1, -2);
         Check.due("18: three", x.registers(), 3);
+    }
+
+    private static void livesAtOnce() {
+        GateMaker x = new GateMaker();
+        x.parts(0, 3);
+        x.constant(3, 8);
+        x.reckon(2, 0, 0, 8);
+        x.reckon(2, 0, 0, 8);
+        x.reckon(2, 1, 2, 8);
+        x.lay();
+        due("16: lives from", x, 5, -2, 1, 1, -2);
+        due("16: lives to", x, 6, -2, 1, 1, -2);
+        due("16: REGISTER, by number", x, 4, -2, 0, 1, -2);
+        Check.due("18: two", x.registers(), 2);
+    }
+
+    private static void forgetsDropped() {
+        GateMaker x = new GateMaker();
+        x.constant(3, 8);
+        x.reckon(2, 0, 0, 8);
+        x.reckon(2, 0, 0, 8);
+        x.port(0, 2, 8);
+        x.port(0, 2, 8);
+        x.lay();
+        Check.due("18: of ACT 2", x.registers(), 1);
+        x.drop();
+        x.drop();
+        x.drop();
+        x.lay();
+        Check.due("18: none is left", x.registers(), 0);
+        x.port(0, 1, 8);
+        x.drop();
+        x.port(1, 1, 8);
+        x.lay();
+        due("16: REGISTER", x, 4, -2, 0, -2);
+        Check.due("20: nor at a TICK", x.at(1, 1), -2);
     }
 
     private static void bounds() {
