@@ -2,8 +2,9 @@ import java.util.Random;
 
 /** Made-up runs of calls on GateMaker and on Model: each answer, and each exception, is the same. */
 public final class ModelTest {
-    private static final int RUNS = 3000;
+    private static final int RUNS = 6000;
     private static final int CALLS = 120;
+    private static final int MOST_CALLS = 512;
     private static final long[] NUMBERS = {
         0, 1, -1, 2, 3, 5, 15, 16, 127, 128, 255, -128, 65535, 1L << 31, (1L << 31) - 1, -(1L << 31),
         Long.MAX_VALUE, Long.MIN_VALUE, 1L << 32, 123456789012345L,
@@ -14,6 +15,7 @@ public final class ModelTest {
     private final GateMaker maker = new GateMaker();
     private final Model model = new Model();
     private final StringBuilder calls = new StringBuilder();
+    private int used = 0;
 
     private ModelTest(long seed) {
         dice = new Random(seed);
@@ -24,7 +26,7 @@ public final class ModelTest {
             ModelTest test = new ModelTest(run);
             test.build(run % 17);
             test.wander(CALLS);
-            test.lookAtAll();
+            test.lookAround(run % 3);
             if (Check.wrongSoFar() != 0) {
                 System.out.println("run " + run + ":" + test.calls);
             }
@@ -32,9 +34,13 @@ public final class ModelTest {
         Check.end();
     }
 
-    private void both(String call, Check.Call ofMaker, Check.Call ofModel) {
+    /** What the program answers, and the model too. */
+    private String both(String call, Check.Call ofMaker, Check.Call ofModel) {
         calls.append(' ').append(call);
-        Check.same(call, Check.answerOf(ofMaker), Check.answerOf(ofModel));
+        used++;
+        String answer = Check.answerOf(ofMaker);
+        Check.same(call, answer, Check.answerOf(ofModel));
+        return answer;
     }
 
     private int some(int least, int greatest) {
@@ -209,8 +215,20 @@ public final class ModelTest {
         }
     }
 
-    private void lookAtAll() {
+    /** To look at all would take more calls than the document allows an object. */
+    private void lookAround(int which) {
         lay();
+        switch (which) {
+            case 0 -> lookAtActs();
+            case 1 -> lookAtNeeds();
+            default -> lookAtRuns();
+        }
+        if (used > MOST_CALLS) {
+            Check.due("calls of one object", used, MOST_CALLS);
+        }
+    }
+
+    private void lookAtActs() {
         for (int a = 0; a < model.count(0); a++) {
             int act = a;
             for (int w = 0; w < 9; w++) {
@@ -218,7 +236,13 @@ public final class ModelTest {
                 both("act(" + a + "," + w + ")", () -> maker.act(act, what), () -> model.act(act, what));
                 both("tick(" + a + "," + w + ")", () -> maker.tick(act, what), () -> model.tick(act, what));
             }
+        }
+    }
+
+    private void lookAtNeeds() {
+        for (int a = 0; a < model.count(0); a++) {
             for (int b = 0; b < model.count(0); b++) {
+                int act = a;
                 int other = b;
                 both("needs(" + a + "," + b + ")", () -> maker.needs(act, other), () -> model.needs(act, other));
             }
@@ -228,6 +252,9 @@ public final class ModelTest {
             both("bound(" + w + ")", () -> maker.bound(what), () -> model.bound(what));
             both("count(" + w + ")", () -> maker.count(what), () -> model.count(what));
         }
+    }
+
+    private void lookAtRuns() {
         run(false);
         String plain = lookAtRun();
         run(true);
@@ -236,25 +263,27 @@ public final class ModelTest {
 
     /** What a run put out, its row and its failure, which are to be the same laid and plain. */
     private String lookAtRun() {
+        StringBuilder end = new StringBuilder();
         for (int w = 0; w < 5; w++) {
             int what = w;
-            both("told(" + w + ")", () -> maker.told(what), () -> model.told(what));
+            String answer = both("told(" + w + ")", () -> maker.told(what), () -> model.told(what));
+            boolean isOfTheWay = w == 2 || w == 3;
+            end.append(isOfTheWay ? "" : answer).append(' ');
         }
-        StringBuilder end = new StringBuilder();
         for (int p = 0; p < 4; p++) {
             int port = p;
             both("outs(" + p + ")", () -> maker.outs(port), () -> model.outs(port));
-            for (int i = 0; i <= maker.outs(p); i++) {
+            String answer = "";
+            for (int i = 0; i <= 16 && !answer.startsWith("throws"); i++) {
                 int k = i;
-                both("out(" + p + "," + i + ")", () -> maker.out(port, k), () -> model.out(port, k));
-                end.append(Check.answerOf(() -> maker.out(port, k))).append(' ');
+                answer = both("out(" + p + "," + i + ")", () -> maker.out(port, k), () -> model.out(port, k));
+                end.append(answer).append(' ');
             }
         }
         for (int i = 0; i < 16; i++) {
             int place = i;
-            both("row(" + i + ")", () -> maker.row(place), () -> model.row(place));
-            end.append(Check.answerOf(() -> maker.row(place))).append(' ');
+            end.append(both("row(" + i + ")", () -> maker.row(place), () -> model.row(place))).append(' ');
         }
-        return end.append(maker.told(0)).append(' ').append(maker.told(1)).toString();
+        return end.toString();
     }
 }
