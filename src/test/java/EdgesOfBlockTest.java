@@ -375,6 +375,8 @@ public final class EdgesOfBlockTest {
         span("TIMES, y's least and x", x, x.reckon(4, below, in, 8), -3, 6);
         int above = x.constant(4, 8);
         span("TIMES, to the least of WIDE", x, x.reckon(4, in, above, 4), -8, 4);
+        int far = x.pick(in, x.constant(1L << 31, 32), x.constant(0, 1), 32);
+        span("TIMES, only the two least are beyond 32 bits", x, x.reckon(4, far, far, 32), -(1L << 31), (1L << 31) - 1);
     }
 
     private static void products(String what, long a, long b, int width, long least, long greatest) {
